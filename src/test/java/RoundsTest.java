@@ -42,7 +42,7 @@ final class RoundsTest {
         Check.state(none, "begin in state 3", () -> none.begin(1));
     }
 
-    /** The orders were drawn by hand from the document's formula. */
+    /** The orders that are due are drawn here once more, by the formula of the document. */
     private static void lots() {
         int[][] seeds = {{0, 5}, {1, 5}, {123456789, 5}, {2147483647, 12}, {42, 4}, {7, 2}};
         for (int[] seed : seeds) {

@@ -6,6 +6,7 @@ final class TextsUndoTest {
         fault();
         undo();
         undoOfEachMethod();
+        undoOfTheOrder();
         undoLeavesTheText();
         checksum();
         Check.end();
@@ -120,11 +121,37 @@ final class TextsUndoTest {
         }
         goesBack(x, "close of a tie round", () -> x.close());
         x.close();
+        Check.due("round", x.info(4), 1);
+    }
+
+    private static void undoOfTheOrder() {
+        PianoRounds x = Check.entrants(8, 3, 12);
+        x.set(1, 2);
+        for (int e = 0; e < 8; e++) {
+            x.setProgram(e, 1);
+        }
+        x.begin(7);
         String drawn = Check.order(x);
+        x.withdraw(x.stage(3));
+        x.withdraw(x.stage(1));
         x.undo();
+        x.undo();
+        same("the order after undo() of withdraw()", Check.order(x), drawn);
+        Check.playAll(x);
+        for (int e = 0; e < 8; e++) {
+            Check.markAll(x, e, 50);
+        }
         x.close();
-        if (!Check.order(x).equals(drawn)) {
-            Check.fail("the lots after undo() are others: " + Check.order(x) + ", before " + drawn);
+        String next = Check.order(x);
+        x.undo();
+        same("the order after undo() of close()", Check.order(x), drawn);
+        x.close();
+        same("the lots after undo() of close()", Check.order(x), next);
+    }
+
+    private static void same(String what, String got, String due) {
+        if (!got.equals(due)) {
+            Check.fail(what + " is " + got + ", due is " + due);
         }
     }
 
