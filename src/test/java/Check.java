@@ -5,14 +5,25 @@ final class Check {
     }
 
     private static int wrong = 0;
+    private static String about = "";
 
     private Check() {
     }
 
+    /** What is told from now on is told with these words before it. */
+    static void about(String words) {
+        about = words;
+    }
+
     static void due(String call, long got, long want) {
         if (got != want) {
-            wrong++;
-            System.out.println(call + " answered " + got + ", due is " + want);
+            fail(call + " answered " + got + ", due is " + want);
+        }
+    }
+
+    static void same(String what, String got, String want) {
+        if (!got.equals(want)) {
+            fail(what + " is " + got + ", due is " + want);
         }
     }
 
@@ -33,8 +44,7 @@ final class Check {
         long before = x.checksum();
         String got = outcome(made);
         if (!got.equals("throws " + due.getName())) {
-            wrong++;
-            System.out.println(call + ": " + got + ", due is " + due.getName());
+            fail(call + ": " + got + ", due is " + due.getName());
         }
         due("checksum() after the refused " + call, x.checksum(), before);
     }
@@ -49,7 +59,7 @@ final class Check {
 
     static void fail(String what) {
         wrong++;
-        System.out.println(what);
+        System.out.println(about.isEmpty() ? what : about + "\n    " + what);
     }
 
     static void end() {
@@ -57,6 +67,11 @@ final class Check {
         if (wrong != 0) {
             System.exit(1);
         }
+    }
+
+    /** The numbers that are just out of a range, and those that are farthest out. */
+    static int[] around(int lowest, int highest) {
+        return new int[] {Integer.MIN_VALUE, lowest - 1, highest + 1, Integer.MAX_VALUE};
     }
 
     // ---- competitions
@@ -84,11 +99,38 @@ final class Check {
         return x;
     }
 
+    /** The same with more rounds: each has these places, and each entrant has the program "0" for all rounds. */
+    static PianoRounds rounds(int rounds, int count, int jurors, int places) {
+        PianoRounds x = entrants(count, jurors, places);
+        x.set(1, rounds);
+        for (int round = 1; round < 4; round++) {
+            x.setRule(round, 5, places);
+            for (int e = 0; e < count; e++) {
+                x.setProgram(e, round);
+            }
+        }
+        return x;
+    }
+
     /** The same in round 0, where all have played without slips. */
     static PianoRounds played(int count, int jurors, int places) {
         PianoRounds x = entrants(count, jurors, places);
         x.begin(42);
         playAll(x);
+        return x;
+    }
+
+    /** Three entrants and jurors, one place: not begun, all played, all three tied, or over with entrant 0 in. */
+    static PianoRounds inState(int state) {
+        if (state == 0) {
+            return entrants(3, 3, 1);
+        }
+        PianoRounds x = played(3, 3, 1);
+        if (state == 2) {
+            closeWith(x, 50, 50, 50);
+        } else if (state == 3) {
+            closeWith(x, 50, 49, 48);
+        }
         return x;
     }
 
@@ -105,10 +147,60 @@ final class Check {
         }
     }
 
+    /** Each juror gives each player of the round the same mark. */
+    static void markPlayers(PianoRounds x, int mark) {
+        for (int k = 0; k < x.info(8); k++) {
+            markAll(x, x.stage(k), mark);
+        }
+    }
+
+    /** All jurors give entrant 0 the first mark, entrant 1 the second, and so on. */
+    static void markEach(PianoRounds x, int... marks) {
+        for (int e = 0; e < marks.length; e++) {
+            markAll(x, e, marks[e]);
+        }
+    }
+
+    /** The same, and then the round or the tie round is closed. */
+    static int closeWith(PianoRounds x, int... marks) {
+        markEach(x, marks);
+        return x.close();
+    }
+
+    /** The first jurors mark, the others abstain. */
+    static void markAndAbstain(PianoRounds x, int entrant, int marks, int mark) {
+        for (int j = 0; j < x.info(0); j++) {
+            if (j < marks) {
+                x.mark(j, entrant, mark);
+            } else {
+                x.abstain(j, entrant);
+            }
+        }
+    }
+
+    static int bar(PianoRounds x, int juror, int entrant, boolean barred) {
+        return x.bar(juror, entrant, barred) ? 1 : 0;
+    }
+
+    /** What has become of each entrant: i is in, t is tied, o is out. */
+    static String verdicts(PianoRounds x) {
+        StringBuilder all = new StringBuilder();
+        for (int e = 0; e < x.info(6); e++) {
+            all.append(x.entrant(e, 6) == 1 ? 't' : x.entrant(e, 0) == 1 ? 'i' : 'o');
+        }
+        return all.toString();
+    }
+
     static void marks(PianoRounds x, int entrant, int... marks) {
         for (int j = 0; j < marks.length; j++) {
             x.mark(j, entrant, marks[j]);
         }
+    }
+
+    /** The four places of a program, as one text. */
+    static String program(PianoRounds x, int entrant, int round) {
+        return x.program(entrant, round, 0) + " " + x.program(entrant, round, 1) + " "
+                + x.program(entrant, round, 2) + " " + x.program(entrant, round, 3);
     }
 
     /** The places of all players in the stage order, as one text. */

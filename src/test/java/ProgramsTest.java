@@ -23,16 +23,8 @@ final class ProgramsTest {
         return x;
     }
 
-    private static String program(PianoRounds x, int entrant, int round) {
-        return x.program(entrant, round, 0) + " " + x.program(entrant, round, 1) + " "
-                + x.program(entrant, round, 2) + " " + x.program(entrant, round, 3);
-    }
-
     private static void is(PianoRounds x, int entrant, int round, String want) {
-        String got = program(x, entrant, round);
-        if (!got.equals(want)) {
-            Check.fail("program of " + entrant + " for round " + round + " is " + got + ", due is " + want);
-        }
+        Check.same("program of " + entrant + " for round " + round, Check.program(x, entrant, round), want);
     }
 
     private static void setProgram() {

@@ -173,6 +173,9 @@ final class RandomRunsTest {
     }
 
     private int near(int bound) {
+        if (draw(90) == 0) {
+            return draw(2) == 0 ? Integer.MIN_VALUE : Integer.MAX_VALUE;
+        }
         return draw(12) == 0 ? draw(40) - 10 : draw(Math.max(1, bound));
     }
 

@@ -48,10 +48,7 @@ final class RoundsTest {
         for (int[] seed : seeds) {
             PianoRounds x = Check.entrants(seed[1], 3, 1);
             x.begin(seed[0]);
-            String due = drawn(seed[0], seed[1], 0);
-            if (!Check.order(x).equals(due)) {
-                Check.fail("begin(" + seed[0] + "): the order is " + Check.order(x) + ", due is " + due);
-            }
+            Check.same("begin(" + seed[0] + "): the order", Check.order(x), new Lots(seed[0]).drawFirst(seed[1]));
         }
         PianoRounds x = Check.entrants(5, 3, 12);
         x.set(1, 2);
@@ -60,42 +57,10 @@ final class RoundsTest {
         }
         x.begin(99);
         Check.playAll(x);
-        for (int e = 0; e < 5; e++) {
-            Check.markAll(x, e, 50);
-        }
-        x.close();
-        String due = drawn(99, 5, 4);
-        if (!Check.order(x).equals(due)) {
-            Check.fail("the order of round 1 is " + Check.order(x) + ", due is " + due);
-        }
-    }
-
-    private static String drawn(int seed, int players, int lotsBefore) {
-        java.math.BigInteger x = java.math.BigInteger.valueOf(seed);
-        for (int i = 0; i < lotsBefore; i++) {
-            x = next(x);
-        }
-        int[] row = new int[players];
-        for (int i = 0; i < players; i++) {
-            row[i] = i;
-        }
-        for (int i = players - 1; i >= 1; i--) {
-            x = next(x);
-            int j = x.intValueExact() / 65536 % (i + 1);
-            int kept = row[i];
-            row[i] = row[j];
-            row[j] = kept;
-        }
-        StringBuilder all = new StringBuilder();
-        for (int player : row) {
-            all.append(player).append(' ');
-        }
-        return all.toString().trim();
-    }
-
-    private static java.math.BigInteger next(java.math.BigInteger x) {
-        return x.multiply(java.math.BigInteger.valueOf(1103515245)).add(java.math.BigInteger.valueOf(12345))
-                .mod(java.math.BigInteger.valueOf(2147483648L));
+        Check.closeWith(x, 50, 50, 50, 50, 50);
+        Lots lots = new Lots(99);
+        lots.drawFirst(5);
+        Check.same("the order of round 1", Check.order(x), lots.drawFirst(5));
     }
 
     private static void play() {

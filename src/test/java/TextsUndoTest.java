@@ -5,7 +5,6 @@ final class TextsUndoTest {
         clearText();
         fault();
         undo();
-        undoOfEachMethod();
         undoOfTheOrder();
         undoLeavesTheText();
         checksum();
@@ -89,41 +88,6 @@ final class TextsUndoTest {
         Check.due("entrants", x.info(6), 2);
     }
 
-    /** Makes each undoable call, and looks whether undo() brings the checksum back. */
-    private static void undoOfEachMethod() {
-        PianoRounds x = Check.entrants(3, 3, 1);
-        x.set(1, 2);
-        for (int e = 0; e < 3; e++) {
-            x.setProgram(e, 1);
-        }
-        goesBack(x, "addWork", () -> x.addWork(1, 1, 1));
-        goesBack(x, "addEntrant", () -> x.addEntrant());
-        goesBack(x, "bar", () -> x.bar(0, 0, true) ? 1 : 0);
-        goesBack(x, "set", () -> x.set(0, 7));
-        goesBack(x, "setRule", () -> x.setRule(0, 0, 7));
-        goesBack(x, "setProgram", () -> x.setProgram(0, 2));
-        goesBack(x, "clearProgram", () -> x.clearProgram(0, 0));
-        goesBack(x, "withdraw", () -> x.withdraw(1));
-        goesBack(x, "begin", () -> x.begin(7));
-        x.begin(7);
-        goesBack(x, "play", () -> x.play(7));
-        goesBack(x, "withdraw", () -> x.withdraw(1));
-        Check.playAll(x);
-        goesBack(x, "mark", () -> x.mark(0, 0, 7));
-        goesBack(x, "abstain", () -> x.abstain(0, 0));
-        for (int e = 0; e < 3; e++) {
-            Check.markAll(x, e, 50);
-        }
-        goesBack(x, "close", () -> x.close());
-        x.close();
-        for (int e = 0; e < 3; e++) {
-            Check.markAll(x, e, e);
-        }
-        goesBack(x, "close of a tie round", () -> x.close());
-        x.close();
-        Check.due("round", x.info(4), 1);
-    }
-
     private static void undoOfTheOrder() {
         PianoRounds x = Check.entrants(8, 3, 12);
         x.set(1, 2);
@@ -136,7 +100,7 @@ final class TextsUndoTest {
         x.withdraw(x.stage(1));
         x.undo();
         x.undo();
-        same("the order after undo() of withdraw()", Check.order(x), drawn);
+        Check.same("the order after undo() of withdraw()", Check.order(x), drawn);
         Check.playAll(x);
         for (int e = 0; e < 8; e++) {
             Check.markAll(x, e, 50);
@@ -144,31 +108,9 @@ final class TextsUndoTest {
         x.close();
         String next = Check.order(x);
         x.undo();
-        same("the order after undo() of close()", Check.order(x), drawn);
+        Check.same("the order after undo() of close()", Check.order(x), drawn);
         x.close();
-        same("the lots after undo() of close()", Check.order(x), next);
-    }
-
-    private static void same(String what, String got, String due) {
-        if (!got.equals(due)) {
-            Check.fail(what + " is " + got + ", due is " + due);
-        }
-    }
-
-    private static void goesBack(PianoRounds x, String call, Check.Call made) {
-        // Four records before the call leave three behind it, so that the first checksum is that of three.
-        x.set(2, x.info(2));
-        x.set(2, x.info(2));
-        x.set(2, x.info(2));
-        x.set(2, x.info(2));
-        x.undo();
-        long before = x.checksum();
-        made.answer();
-        if (x.checksum() == before) {
-            Check.fail(call + " has left no trace in the checksum");
-        }
-        Check.due("undo() of " + call, x.undo(), 3);
-        Check.due("checksum() after undo() of " + call, x.checksum(), before);
+        Check.same("the lots after undo() of close()", Check.order(x), next);
     }
 
     private static void undoLeavesTheText() {
@@ -181,75 +123,18 @@ final class TextsUndoTest {
     }
 
     private static void checksum() {
-        PianoRounds x = new PianoRounds();
-        Check.due("checksum() of a new object", x.checksum(), plain(x, 0, 0));
-        PianoRounds y = Check.entrants(3, 3, 1);
-        y.set(1, 2);
-        y.setProgram(0, 1);
-        y.bar(1, 2, true);
-        y.begin(5);
-        Check.playAll(y);
-        Check.markAll(y, 0, 40);
-        Check.markAll(y, 1, 40);
-        y.mark(0, 2, 3);
-        Check.due("checksum() in a round", y.checksum(), plain(y, 1, 4));
-        y.abstain(2, 2);
-        y.mark(0, 2, 30);
-        y.bar(1, 2, false);
-        y.mark(1, 2, 9);
-        y.close();
-        y.mark(0, 1, 7);
-        Check.due("checksum() in a tie round", y.checksum(), plain(y, 1, 4));
-        y.undo();
-        Check.due("checksum() with three records", y.checksum(), plain(y, 1, 3));
-        y.clearText();
-        Check.due("checksum() without text", y.checksum(), plain(y, 0, 3));
-    }
-
-    /** The checksum made of the answers of the other calls, where bar() would tell who is barred. */
-    private static long plain(PianoRounds x, int textLength, int records) {
-        java.util.List<Integer> all = new java.util.ArrayList<>();
-        for (int what = 0; what <= 12; what++) {
-            all.add(x.info(what));
-        }
-        for (int w = 0; w < x.info(5); w++) {
-            for (int what = 0; what <= 2; what++) {
-                all.add(x.work(w, what));
-            }
-        }
-        for (int r = 0; r < 4; r++) {
-            for (int what = 0; what <= 5; what++) {
-                all.add(x.rule(r, what));
-            }
-        }
-        for (int e = 0; e < x.info(6); e++) {
-            for (int what = 0; what <= 7; what++) {
-                all.add(x.entrant(e, what));
-            }
-            for (int r = 0; r < 4; r++) {
-                all.add(x.flaw(e, r));
-                all.add(x.history(e, r));
-                for (int k = 0; k < 4; k++) {
-                    all.add(x.program(e, r, k));
-                }
-            }
-            for (int j = 0; j < x.info(0); j++) {
-                boolean barred = x.info(3) == 1 && j == 1 && e == 2;
-                all.add(barred ? 1 : 0);
-                all.add(x.marked(j, e, false));
-                all.add(x.marked(j, e, true));
-            }
-        }
-        for (int k = 0; k < x.info(8); k++) {
-            all.add(x.stage(k));
-        }
-        all.add(x.strangestJuror());
-        all.add(textLength);
-        all.add(records);
-        long h = 43009;
-        for (int v : all) {
-            h = 31 * h + v;
-        }
-        return h;
+        PianoRounds x = Check.entrants(3, 3, 1);
+        x.set(1, 2);
+        x.setProgram(0, 1);
+        x.bar(1, 2, true);
+        x.begin(5);
+        Check.playAll(x);
+        Check.markAll(x, 0, 40);
+        Check.markAll(x, 1, 40);
+        x.mark(0, 2, 3);
+        Check.due("checksum() in a round", x.checksum(), PlainChecksum.of(x, 1, 4, new int[] {1, 2}));
+        x.undo();
+        x.clearText();
+        Check.due("checksum() without text", x.checksum(), PlainChecksum.of(x, 0, 3, new int[] {1, 2}));
     }
 }
