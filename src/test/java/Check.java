@@ -57,6 +57,17 @@ final class Check {
         }
     }
 
+    /** Makes each test, and goes on with the next one when a call throws what the test does not expect. */
+    static void each(Runnable... tests) {
+        for (Runnable test : tests) {
+            try {
+                test.run();
+            } catch (RuntimeException e) {
+                fail("a call throws " + e.getClass().getName());
+            }
+        }
+    }
+
     static void fail(String what) {
         wrong++;
         System.out.println(about.isEmpty() ? what : about + "\n    " + what);

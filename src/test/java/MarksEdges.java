@@ -3,30 +3,31 @@ final class MarksEdges {
     private static final String PART = "MARKS";
 
     static void run() {
-        playersPlayInTheStageOrder();
-        jurorsMarkThoseWhoHavePlayed();
-        laterMarksTakeThePlace();
-        completeWhenEachJurorIsDone();
-        completeWithHalfOfTheMarks();
-        neverCompleteWithTooManyBars();
-        onlyMarksOfThoseNotBarredCount();
-        stateThreeTellsTheLastRound();
-        stateThreeTellsARoundWithoutPlayers();
-        penaltyCountsAsItIsNow();
-        outerMarksAreLeftOutOfFour();
-        meansAreRoundedDown();
-        scoresAreAtLeastZero();
-        penaltyIsZeroToHundred();
-        markTakesMarks();
-        markTellsHowManyCount();
-        markRefusesNoJurorOrEntrant();
-        markRefusesMarks();
-        markRefusesInOtherStates();
-        markRefusesOthersThanPlayers();
-        markRefusesOthersThanTiedOnes();
-        abstainTellsHowManyCount();
-        abstainRefusesNoJurorOrEntrant();
-        abstainRefusesAsMark();
+        Check.each(
+                MarksEdges::playersPlayInTheStageOrder,
+                MarksEdges::jurorsMarkThoseWhoHavePlayed,
+                MarksEdges::laterMarksTakeThePlace,
+                MarksEdges::completeWhenEachJurorIsDone,
+                MarksEdges::completeWithHalfOfTheMarks,
+                MarksEdges::neverCompleteWithTooManyBars,
+                MarksEdges::onlyMarksOfThoseNotBarredCount,
+                MarksEdges::stateThreeTellsTheLastRound,
+                MarksEdges::stateThreeTellsARoundWithoutPlayers,
+                MarksEdges::penaltyCountsAsItIsNow,
+                MarksEdges::outerMarksAreLeftOutOfFour,
+                MarksEdges::meansAreRoundedDown,
+                MarksEdges::scoresAreAtLeastZero,
+                MarksEdges::penaltyIsZeroToHundred,
+                MarksEdges::markTakesMarks,
+                MarksEdges::markTellsHowManyCount,
+                MarksEdges::markRefusesNoJurorOrEntrant,
+                MarksEdges::markRefusesMarks,
+                MarksEdges::markRefusesInOtherStates,
+                MarksEdges::markRefusesOthersThanPlayers,
+                MarksEdges::markRefusesOthersThanTiedOnes,
+                MarksEdges::abstainTellsHowManyCount,
+                MarksEdges::abstainRefusesNoJurorOrEntrant,
+                MarksEdges::abstainRefusesAsMark);
     }
 
     /** One player who has played with these slips, and so many jurors. */
@@ -352,6 +353,8 @@ final class MarksEdges {
         PianoRounds tie = Check.inState(2);
         Check.argument(tie, "mark 11 in a tie round", () -> tie.mark(0, 0, 11));
         Check.argument(tie, "mark 100 in a tie round", () -> tie.mark(0, 0, 100));
+        PianoRounds two = twoTied();
+        Check.argument(two, "mark 11 of one who is not tied", () -> two.mark(0, 0, 11));
         PianoRounds over = Check.inState(3);
         Check.state(over, "mark 11 in state 3", () -> over.mark(0, 0, 11));
     }

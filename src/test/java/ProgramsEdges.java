@@ -3,39 +3,40 @@ final class ProgramsEdges {
     private static final String PART = "ROUNDS AND PROGRAMS";
 
     static void run() {
-        oneToFourRounds();
-        rulesAndProgramsOfAllRounds();
-        ruleOfLeastLength();
-        ruleOfGreatestLength();
-        ruleOfEras();
-        ruleOfComposers();
-        ruleOfNewWorks();
-        ruleOfPlaces();
-        eachBitIsAnEra();
-        atMostFourDifferentWorks();
-        firstFlawThatApplies();
-        flawOfNoWorks();
-        flawOfTooShort();
-        flawOfTooLong();
-        flawOfEras();
-        flawOfComposers();
-        flawOfWorksThatAreNotNew();
-        noFlaw();
-        setProgramTakesFourRounds();
-        setProgramLeavesTheText();
-        setProgramTellsTheNumber();
-        setProgramRefusesNoEntrantOrRound();
-        setProgramRefusesAFault();
-        clearProgramTakesFourRounds();
-        clearProgramTellsTheNumber();
-        clearProgramRefusesNoEntrantOrRound();
-        programTakesFourRounds();
-        programTakesPlaces();
-        programTellsNone();
-        programRefusesNoEntrantOrRound();
-        flawTakesFourRounds();
-        flawIsZeroToSix();
-        flawRefusesNoEntrantOrRound();
+        Check.each(
+                ProgramsEdges::oneToFourRounds,
+                ProgramsEdges::rulesAndProgramsOfAllRounds,
+                ProgramsEdges::ruleOfLeastLength,
+                ProgramsEdges::ruleOfGreatestLength,
+                ProgramsEdges::ruleOfEras,
+                ProgramsEdges::ruleOfComposers,
+                ProgramsEdges::ruleOfNewWorks,
+                ProgramsEdges::ruleOfPlaces,
+                ProgramsEdges::eachBitIsAnEra,
+                ProgramsEdges::atMostFourDifferentWorks,
+                ProgramsEdges::firstFlawThatApplies,
+                ProgramsEdges::flawOfNoWorks,
+                ProgramsEdges::flawOfTooShort,
+                ProgramsEdges::flawOfTooLong,
+                ProgramsEdges::flawOfEras,
+                ProgramsEdges::flawOfComposers,
+                ProgramsEdges::flawOfWorksThatAreNotNew,
+                ProgramsEdges::noFlaw,
+                ProgramsEdges::setProgramTakesFourRounds,
+                ProgramsEdges::setProgramLeavesTheText,
+                ProgramsEdges::setProgramTellsTheNumber,
+                ProgramsEdges::setProgramRefusesNoEntrantOrRound,
+                ProgramsEdges::setProgramRefusesAFault,
+                ProgramsEdges::clearProgramTakesFourRounds,
+                ProgramsEdges::clearProgramTellsTheNumber,
+                ProgramsEdges::clearProgramRefusesNoEntrantOrRound,
+                ProgramsEdges::programTakesFourRounds,
+                ProgramsEdges::programTakesPlaces,
+                ProgramsEdges::programTellsNone,
+                ProgramsEdges::programRefusesNoEntrantOrRound,
+                ProgramsEdges::flawTakesFourRounds,
+                ProgramsEdges::flawIsZeroToSix,
+                ProgramsEdges::flawRefusesNoEntrantOrRound);
     }
 
     /** Two entrants, and works told as composer, era, minutes. */

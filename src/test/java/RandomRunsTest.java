@@ -1,7 +1,8 @@
 /** Long runs of drawn calls, each answer compared with that of PlainModel; the draws are always the same. */
 final class RandomRunsTest {
     private static final int RUNS = 1500;
-    private static final int CALLS = 500;
+    /** A step may make some forty calls more, which stays below the 512 that the document promises. */
+    private static final int CALLS = 460;
 
     private PianoRounds x;
     private PlainModel model;
@@ -63,9 +64,9 @@ final class RandomRunsTest {
             if (!step() || draw(3) == 0 && !same("checksum()", () -> x.checksum(), () -> model.checksum())) {
                 return false;
             }
-            STATES[x.info(3)]++;
-            TIES[x.info(12)]++;
-            ROUNDS[x.info(4)]++;
+            STATES[model.info(3)]++;
+            TIES[model.info(12)]++;
+            ROUNDS[model.info(4)]++;
         }
         return same("checksum()", () -> x.checksum(), () -> model.checksum());
     }
@@ -136,7 +137,7 @@ final class RandomRunsTest {
         StringBuilder all = new StringBuilder();
         int numbers = draw(draw(6) == 0 ? 12 : 4) + (draw(8) == 0 ? 0 : 1);
         for (int i = 0; i < numbers; i++) {
-            all.append(i == 0 ? "" : ",").append(draw(8) == 0 ? "0" : "").append(draw(x.info(5) + (draw(9) == 0 ? 3 : 0)));
+            all.append(i == 0 ? "" : ",").append(draw(8) == 0 ? "0" : "").append(draw(model.info(5) + (draw(9) == 0 ? 3 : 0)));
         }
         if (draw(6) == 0) {
             all.append((char) (draw(2) == 0 ? ',' : 32 + draw(95)));
@@ -146,18 +147,18 @@ final class RandomRunsTest {
 
     /** Something that brings the competition on. */
     private boolean forward() {
-        int state = x.info(3);
+        int state = model.info(3);
         if (state == 0) {
             int seed = draw(2) == 0 ? draw(Integer.MAX_VALUE) : draw(50);
             return draw(4) != 0 || same("begin(" + seed + ")", () -> x.begin(seed), () -> model.begin(seed));
         }
-        if (state == 1 && x.info(9) < x.info(8) && draw(2) == 0) {
+        if (state == 1 && model.info(9) < model.info(8) && draw(2) == 0) {
             int slips = draw(3) == 0 ? draw(21) : 0;
             return same("play(" + slips + ")", () -> x.play(slips), () -> model.play(slips));
         }
-        for (int e = 0; e < x.info(6); e++) {
-            for (int j = 0; j < x.info(0) && (state == 2 ? x.entrant(e, 6) == 1 : x.entrant(e, 2) >= 0); j++) {
-                if (x.marked(j, e, state == 2) == -1 && draw(6) != 0) {
+        for (int e = 0; e < model.info(6); e++) {
+            for (int j = 0; j < model.info(0) && (state == 2 ? model.entrant(e, 6) == 1 : model.entrant(e, 2) >= 0); j++) {
+                if (model.marked(j, e, state == 2) == -1 && draw(6) != 0) {
                     return state == 3 || enter(j, e, state == 2 ? draw(Math.min(span, 11)) : draw(span));
                 }
             }
@@ -180,8 +181,8 @@ final class RandomRunsTest {
     }
 
     private boolean ask() {
-        int e = near(x.info(6));
-        int j = near(x.info(0));
+        int e = near(model.info(6));
+        int j = near(model.info(0));
         int r = near(4);
         int k = near(8);
         boolean b = draw(2) == 0;
@@ -208,8 +209,8 @@ final class RandomRunsTest {
 
     /** Something that may be refused, or may hinder the competition. */
     private boolean disturb() {
-        int e = near(x.info(6));
-        int j = near(x.info(0));
+        int e = near(model.info(6));
+        int j = near(model.info(0));
         int r = near(4);
         int k = near(6);
         boolean b = draw(3) == 0;

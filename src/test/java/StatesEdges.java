@@ -3,30 +3,31 @@ final class StatesEdges {
     private static final String PART = "STATES";
 
     static void run() {
-        notBegunAtFirst();
-        allAreInAtFirst();
-        onlyInStateZero();
-        alwaysToBeChanged();
-        roundBeginsWithThoseWhoAreIn();
-        thoseWithAFlawAreOut();
-        playersAreTheOthers();
-        roundWithoutPlayersIsTheLast();
-        lotsForEachPlace();
-        lotsGoOnFromRoundToRound();
-        lotsWrapAround();
-        lotsChangePlaces();
-        beginTakesSeeds();
-        beginTellsThePlayers();
-        beginRefusesNegativeSeeds();
-        beginRefusesWhenBegun();
-        playTakesSlips();
-        playRefusesSlips();
-        playRefusesWhenNobodyCanPlay();
-        withdrawnPlayerIsNoPlayer();
-        lastPlayerWithdraws();
-        withdrawTellsThoseWhoAreIn();
-        withdrawRefusesNoEntrant();
-        withdrawRefusesTheOthers();
+        Check.each(
+                StatesEdges::notBegunAtFirst,
+                StatesEdges::allAreInAtFirst,
+                StatesEdges::onlyInStateZero,
+                StatesEdges::alwaysToBeChanged,
+                StatesEdges::roundBeginsWithThoseWhoAreIn,
+                StatesEdges::thoseWithAFlawAreOut,
+                StatesEdges::playersAreTheOthers,
+                StatesEdges::roundWithoutPlayersIsTheLast,
+                StatesEdges::lotsForEachPlace,
+                StatesEdges::lotsGoOnFromRoundToRound,
+                StatesEdges::lotsWrapAround,
+                StatesEdges::lotsChangePlaces,
+                StatesEdges::beginTakesSeeds,
+                StatesEdges::beginTellsThePlayers,
+                StatesEdges::beginRefusesNegativeSeeds,
+                StatesEdges::beginRefusesWhenBegun,
+                StatesEdges::playTakesSlips,
+                StatesEdges::playRefusesSlips,
+                StatesEdges::playRefusesWhenNobodyCanPlay,
+                StatesEdges::withdrawnPlayerIsNoPlayer,
+                StatesEdges::lastPlayerWithdraws,
+                StatesEdges::withdrawTellsThoseWhoAreIn,
+                StatesEdges::withdrawRefusesNoEntrant,
+                StatesEdges::withdrawRefusesTheOthers);
     }
 
     // ---- Description

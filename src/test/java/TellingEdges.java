@@ -1,36 +1,37 @@
 /** Edges of what the competition tells of itself: promises 19 to 23. */
 final class TellingEdges {
     static void run() {
-        infoAsForSet();
-        infoOfTheRound();
-        infoOfThoseWhoAreIn();
-        infoOfThePlayers();
-        infoOfThoseWhoHavePlayed();
-        infoOfTheTied();
-        infoOfThePlacesLeft();
-        infoOfTheTieRound();
-        infoRefusesWhat();
-        entrantIsIn();
-        entrantHasAPlace();
-        entrantHasSlips();
-        entrantHasMarksThatCount();
-        entrantHasAScore();
-        entrantIsComplete();
-        entrantIsTied();
-        entrantHasATieScore();
-        entrantRefusesNoEntrant();
-        entrantRefusesWhat();
-        markedOfTheRoundOrTheTieRound();
-        markedByABarredJuror();
-        markedIsAnAbstention();
-        markedIsNone();
-        markedRefusesNoJurorOrEntrant();
-        historyAsSoonAsClosed();
-        historyTakesFourRounds();
-        historyOfNoPlayerOrNoClosedRound();
-        historyRefusesNoEntrantOrRound();
-        stageTakesPlaces();
-        stageIsNone();
+        Check.each(
+                TellingEdges::infoAsForSet,
+                TellingEdges::infoOfTheRound,
+                TellingEdges::infoOfThoseWhoAreIn,
+                TellingEdges::infoOfThePlayers,
+                TellingEdges::infoOfThoseWhoHavePlayed,
+                TellingEdges::infoOfTheTied,
+                TellingEdges::infoOfThePlacesLeft,
+                TellingEdges::infoOfTheTieRound,
+                TellingEdges::infoRefusesWhat,
+                TellingEdges::entrantIsIn,
+                TellingEdges::entrantHasAPlace,
+                TellingEdges::entrantHasSlips,
+                TellingEdges::entrantHasMarksThatCount,
+                TellingEdges::entrantHasAScore,
+                TellingEdges::entrantIsComplete,
+                TellingEdges::entrantIsTied,
+                TellingEdges::entrantHasATieScore,
+                TellingEdges::entrantRefusesNoEntrant,
+                TellingEdges::entrantRefusesWhat,
+                TellingEdges::markedOfTheRoundOrTheTieRound,
+                TellingEdges::markedByABarredJuror,
+                TellingEdges::markedIsAnAbstention,
+                TellingEdges::markedIsNone,
+                TellingEdges::markedRefusesNoJurorOrEntrant,
+                TellingEdges::historyAsSoonAsClosed,
+                TellingEdges::historyTakesFourRounds,
+                TellingEdges::historyOfNoPlayerOrNoClosedRound,
+                TellingEdges::historyRefusesNoEntrantOrRound,
+                TellingEdges::stageTakesPlaces,
+                TellingEdges::stageIsNone);
     }
 
     /** Entrant 0 goes on, 1 and 2 are tied for one place, 3 is out; another round follows. */

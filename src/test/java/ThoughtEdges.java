@@ -1,25 +1,26 @@
 /** Edges of what is told in thought: promises 24 to 26. */
 final class ThoughtEdges {
     static void run() {
-        wouldBeAsCloseDecides();
-        wouldBeTellsThreeNumbers();
-        wouldBeIsNone();
-        wouldBeRefusesWhat();
-        neededMarkIsTheLowest();
-        neededMarkDoesNotCountTheOwnMark();
-        neededMarkTakesScores();
-        neededMarkIsZeroToHundred();
-        neededMarkIsNone();
-        neededMarkRefusesNoJurorOrEntrant();
-        neededMarkRefusesScores();
-        neededMarkRefusesInOtherStates();
-        neededMarkRefusesBarredJurors();
-        neededMarkRefusesOthersThanPlayers();
-        strangestOverComparedMarks();
-        strangestByTheMeanOfTheOthers();
-        strangestOfSeveralIsTheLowest();
-        strangestIsNone();
-        strangestOfNoDistance();
+        Check.each(
+                ThoughtEdges::wouldBeAsCloseDecides,
+                ThoughtEdges::wouldBeTellsThreeNumbers,
+                ThoughtEdges::wouldBeIsNone,
+                ThoughtEdges::wouldBeRefusesWhat,
+                ThoughtEdges::neededMarkIsTheLowest,
+                ThoughtEdges::neededMarkDoesNotCountTheOwnMark,
+                ThoughtEdges::neededMarkTakesScores,
+                ThoughtEdges::neededMarkIsZeroToHundred,
+                ThoughtEdges::neededMarkIsNone,
+                ThoughtEdges::neededMarkRefusesNoJurorOrEntrant,
+                ThoughtEdges::neededMarkRefusesScores,
+                ThoughtEdges::neededMarkRefusesInOtherStates,
+                ThoughtEdges::neededMarkRefusesBarredJurors,
+                ThoughtEdges::neededMarkRefusesOthersThanPlayers,
+                ThoughtEdges::strangestOverComparedMarks,
+                ThoughtEdges::strangestByTheMeanOfTheOthers,
+                ThoughtEdges::strangestOfSeveralIsTheLowest,
+                ThoughtEdges::strangestIsNone,
+                ThoughtEdges::strangestOfNoDistance);
     }
 
     // ---- Promise 24
@@ -239,12 +240,14 @@ final class ThoughtEdges {
                 + "of the marks of the others that count");
         PianoRounds trimmed = Check.played(1, 5, 1);
         Check.marks(trimmed, 0, 0, 100, 10, 10, 10);
-        Check.due("10000, 90000 by means of the middle ones", trimmed.strangestJuror(), 1);
+        Check.due("10000, 90000, then less, by the middle ones of the others", trimmed.strangestJuror(), 1);
+        Check.marks(trimmed, 0, 0, 0, 2, 2, 3);
+        Check.due("2000, 2000, 1000, 1000, 2000 by the middle ones of the others", trimmed.strangestJuror(), 0);
         PianoRounds rounded = Check.played(1, 4, 1);
-        Check.marks(rounded, 0, 50, 51, 52, 53);
-        Check.due("2000, 666, 667, 2000 by means rounded down", rounded.strangestJuror(), 0);
+        Check.marks(rounded, 0, 0, 0, 1, 1);
+        Check.due("666, 666, 667, 667 by means rounded down", rounded.strangestJuror(), 2);
         rounded.bar(0, 0, true);
-        Check.due("none, 1500, 0, 1500", rounded.strangestJuror(), 1);
+        Check.due("none, 1000, 500, 500", rounded.strangestJuror(), 1);
         PianoRounds signs = Check.played(2, 3, 2);
         Check.marks(signs, 0, 90, 50, 50);
         Check.marks(signs, 1, 10, 50, 53);

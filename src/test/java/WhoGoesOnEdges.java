@@ -3,27 +3,28 @@ final class WhoGoesOnEdges {
     private static final String PART = "WHO GOES ON";
 
     static void run() {
-        roundNeedsAllPerformances();
-        eachRoundHasItsPlaces();
-        atMostAsManyPlayersAsPlaces();
-        greaterScoresGoOn();
-        lastScoreThatFits();
-        lastScoreThatDoesNotFit();
-        smallerScoresAreOut();
-        tieMarks();
-        tieNeedsEachJuror();
-        tieNeedsHalfOfTheMarks();
-        tieScoresAreMeans();
-        tieScoresDecideAsInARound();
-        nextTieRoundBeginsAnew();
-        thirdTieRoundGoesByTheStageOrder();
-        thirdTieRoundGoesByScoresFirst();
-        eachRoundHasThreeTieRounds();
-        nextRoundBegins();
-        lastRoundIsOver();
-        closeTellsTheState();
-        closeRefusesInOtherStates();
-        closeRefusesTooEarly();
+        Check.each(
+                WhoGoesOnEdges::roundNeedsAllPerformances,
+                WhoGoesOnEdges::eachRoundHasItsPlaces,
+                WhoGoesOnEdges::atMostAsManyPlayersAsPlaces,
+                WhoGoesOnEdges::greaterScoresGoOn,
+                WhoGoesOnEdges::lastScoreThatFits,
+                WhoGoesOnEdges::lastScoreThatDoesNotFit,
+                WhoGoesOnEdges::smallerScoresAreOut,
+                WhoGoesOnEdges::tieMarks,
+                WhoGoesOnEdges::tieNeedsEachJuror,
+                WhoGoesOnEdges::tieNeedsHalfOfTheMarks,
+                WhoGoesOnEdges::tieScoresAreMeans,
+                WhoGoesOnEdges::tieScoresDecideAsInARound,
+                WhoGoesOnEdges::nextTieRoundBeginsAnew,
+                WhoGoesOnEdges::thirdTieRoundGoesByTheStageOrder,
+                WhoGoesOnEdges::thirdTieRoundGoesByScoresFirst,
+                WhoGoesOnEdges::eachRoundHasThreeTieRounds,
+                WhoGoesOnEdges::nextRoundBegins,
+                WhoGoesOnEdges::lastRoundIsOver,
+                WhoGoesOnEdges::closeTellsTheState,
+                WhoGoesOnEdges::closeRefusesInOtherStates,
+                WhoGoesOnEdges::closeRefusesTooEarly);
     }
 
     /** Round 0 is closed with these marks of all three jurors. */

@@ -3,36 +3,37 @@ final class WorksEntrantsJuryEdges {
     private static final String PART = "WORKS, ENTRANTS, JURY";
 
     static void run() {
-        atMostThirtyWorks();
-        rangesOfAWork();
-        atMostTwelveEntrants();
-        threeToSevenJurors();
-        nobodyIsBarredAtFirst();
-        barringsAreKeptWithoutTheJuror();
-        newObjectIsEmpty();
-        addWorkTakesComposers();
-        addWorkTakesEras();
-        addWorkTakesMinutes();
-        addWorkRefusesWhatIsOutOfRange();
-        addWorkRefusesWhenBegunOrFull();
-        workTellsThreeThings();
-        workRefusesNoWork();
-        workRefusesWhat();
-        addEntrantRefusesWhenBegunOrFull();
-        barTellsWhatWas();
-        barRefusesNoJurorOrEntrant();
-        setChangesJustOne();
-        setRefusesWhatIsOutOfRange();
-        setRefusesWhenBegun();
-        setRuleTakesFourRounds();
-        setRuleChangesJustOne();
-        setRuleRefusesNoRound();
-        setRuleRefusesWhatIsOutOfRange();
-        setRuleRefusesWhenBegun();
-        ruleTakesFourRounds();
-        ruleTellsSixRules();
-        ruleRefusesNoRound();
-        ruleRefusesWhat();
+        Check.each(
+                WorksEntrantsJuryEdges::atMostThirtyWorks,
+                WorksEntrantsJuryEdges::rangesOfAWork,
+                WorksEntrantsJuryEdges::atMostTwelveEntrants,
+                WorksEntrantsJuryEdges::threeToSevenJurors,
+                WorksEntrantsJuryEdges::nobodyIsBarredAtFirst,
+                WorksEntrantsJuryEdges::barringsAreKeptWithoutTheJuror,
+                WorksEntrantsJuryEdges::newObjectIsEmpty,
+                WorksEntrantsJuryEdges::addWorkTakesComposers,
+                WorksEntrantsJuryEdges::addWorkTakesEras,
+                WorksEntrantsJuryEdges::addWorkTakesMinutes,
+                WorksEntrantsJuryEdges::addWorkRefusesWhatIsOutOfRange,
+                WorksEntrantsJuryEdges::addWorkRefusesWhenBegunOrFull,
+                WorksEntrantsJuryEdges::workTellsThreeThings,
+                WorksEntrantsJuryEdges::workRefusesNoWork,
+                WorksEntrantsJuryEdges::workRefusesWhat,
+                WorksEntrantsJuryEdges::addEntrantRefusesWhenBegunOrFull,
+                WorksEntrantsJuryEdges::barTellsWhatWas,
+                WorksEntrantsJuryEdges::barRefusesNoJurorOrEntrant,
+                WorksEntrantsJuryEdges::setChangesJustOne,
+                WorksEntrantsJuryEdges::setRefusesWhatIsOutOfRange,
+                WorksEntrantsJuryEdges::setRefusesWhenBegun,
+                WorksEntrantsJuryEdges::setRuleTakesFourRounds,
+                WorksEntrantsJuryEdges::setRuleChangesJustOne,
+                WorksEntrantsJuryEdges::setRuleRefusesNoRound,
+                WorksEntrantsJuryEdges::setRuleRefusesWhatIsOutOfRange,
+                WorksEntrantsJuryEdges::setRuleRefusesWhenBegun,
+                WorksEntrantsJuryEdges::ruleTakesFourRounds,
+                WorksEntrantsJuryEdges::ruleTellsSixRules,
+                WorksEntrantsJuryEdges::ruleRefusesNoRound,
+                WorksEntrantsJuryEdges::ruleRefusesWhat);
     }
 
     // ---- Description
